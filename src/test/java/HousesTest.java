@@ -245,6 +245,8 @@ public final class HousesTest {
     DUE.is("9 at 12", x.letting(1, 12), 2 + 4 + 16 + 128);
     DUE.is("9 at 23", x.letting(1, 23), 2 + 128);
     DUE.is("9 its own and others", x.letting(7, 6), 16 + 128);
+    x.name(0, 0, 3, true);
+    DUE.is("9 house 0, too", x.letting(3, 12), 1 + 8 + 16 + 128);
     DUE.is("9 family 8", x.letting(8, 0), Due.BEYOND);
     DUE.is("9 clock 24", x.letting(0, 24), Due.BEYOND);
     for (int no : EXTREMES) {

@@ -126,6 +126,8 @@ public final class TextsTest {
     DUE.is("35 two words", Due.read(x, "inn inn"), -5);
     DUE.is("35 a part of a word", Due.read(x, "inns"), -1);
     DUE.is("35 a part of a word", Due.read(x, "hous"), -1);
+    DUE.is("35 another first letter", Due.read(x, "mouse"), -1);
+    DUE.is("35 another last letter", Due.read(x, "houst"), -1);
     DUE.is("35 a capital", Due.read(x, "Inn"), -1);
     DUE.is("35 a capital in it", Due.read(x, "inN"), -1);
     DUE.is("35 a capital behind", Due.read(x, "inn N"), -5);

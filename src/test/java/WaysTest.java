@@ -52,6 +52,11 @@ public final class WaysTest {
       DUE.is("11 room", x.way(0, no, 0), Due.BEYOND);
       DUE.is("11 clock", x.way(0, 0, no), Due.BEYOND);
     }
+    Due.leave(x, 0, 0);
+    x.change(0, 4, 23);
+    DUE.is("11 not in by house 0", x.way(3, 3, 12), Due.NONE);
+    DUE.is("12 not in by house 0", x.noise(3, 3, 12), Due.NONE);
+    DUE.is("14 not in by house 0", x.reach(3, 12), 4 | 16 | 64 | 1 << 10 | 1 << 12 | 1 << 14);
     StairRow down = Due.openRow(2);
     down.stair(0, 1);
     Due.leave(down, 0, 0);
@@ -256,6 +261,10 @@ public final class WaysTest {
     DUE.is("16 round over 0", x.hours(1), 0x7ffffe);
     DUE.is("17 round over 0", x.latest(1), 23);
     DUE.is("18 round over 0", x.best(1), 0);
+    x.change(0, 3, 0);
+    DUE.is("16 at 0 alone", x.hours(1), 0xfffffe);
+    DUE.is("17 at 0 alone", x.latest(1), 0);
+    DUE.is("18 at 0 alone", x.best(1), 0);
     for (int no : new int[] {3, -1, Integer.MIN_VALUE, Integer.MAX_VALUE}) {
       DUE.is("16 family", x.hours(no), Due.BEYOND);
       DUE.is("17 family", x.latest(no), Due.BEYOND);
