@@ -8,14 +8,42 @@ public final class Due {
   public static final int MISSING = -1000006;
   public static final int SIZE = -1000007;
 
+  /** A call with one of its arguments left open. */
+  public interface Call {
+    int with(int argument);
+  }
+
   private int asked = 0;
   private int wrong = 0;
+  private String test = "";
+
+  /** What is asked from now on belongs to a test. */
+  public void begin(String name) {
+    test = name + ": ";
+  }
+
+  public int asked() {
+    return asked;
+  }
 
   public void is(String call, long got, long want) {
     asked++;
     if (got != want) {
       wrong++;
-      System.out.println(call + " answered " + got + ", due is " + want);
+      System.out.println(test + call + " answered " + got + ", due is " + want);
+    }
+  }
+
+  /** An argument from low to high is none that is BEYOND, each other one is. */
+  public void range(String call, int low, int high, Call asking) {
+    for (int v = low; v <= high; v++) {
+      is(call + " with " + v + " is BEYOND", asking.with(v) == BEYOND ? 1 : 0, 0);
+    }
+    int[] outside = {low - 1, low - 2, low - 8, high + 1, high + 2, high + 8, low + 64, low + 256,
+      low + 65536, Integer.MIN_VALUE, Integer.MIN_VALUE + 1, Integer.MAX_VALUE - 1,
+      Integer.MAX_VALUE, BEYOND};
+    for (int v : outside) {
+      is(call + " with " + v, asking.with(v), BEYOND);
     }
   }
 
